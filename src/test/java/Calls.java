@@ -1,19 +1,42 @@
+import java.util.HashMap;
+import java.util.Map;
+
 /** Makes calls that are told as text ("allot 0 2 3") and tells their answers as text. */
 final class Calls {
-    private Calls() {
+    private static final Map<String, Calls> READ_BEFORE = new HashMap<>();
+
+    private final String name;
+    private final int[] n;
+    private long last;
+
+    private Calls(String call) {
+        String[] words = call.trim().split(" +");
+        name = words[0];
+        n = new int[words.length - 1];
+        for (int i = 0; i < n.length; i++) {
+            last = number(words[i + 1]);
+            n[i] = (int) last;
+        }
     }
 
     /** The answer: a number, "done" for a method without one, or "Index", "State", "Argument" for what was thrown. */
     static String answer(TrialDesk desk, String call) {
-        String[] words = call.trim().split(" +");
-        long[] args = new long[words.length - 1];
-        for (int i = 0; i < args.length; i++) {
-            args[i] = Long.parseLong(words[i + 1]);
-        }
+        Calls read = READ_BEFORE.computeIfAbsent(call, Calls::new);
         try {
-            return make(desk, words[0], args);
+            return read.make(desk);
         } catch (RuntimeException e) {
             return nameOf(e);
+        }
+    }
+
+    /** A number, or the name of an end of int or long. */
+    static long number(String word) {
+        switch (word) {
+            case "MIN": return Integer.MIN_VALUE;
+            case "MAX": return Integer.MAX_VALUE;
+            case "LONG_MIN": return Long.MIN_VALUE;
+            case "LONG_MAX": return Long.MAX_VALUE;
+            default: return Long.parseLong(word);
         }
     }
 
@@ -28,24 +51,20 @@ final class Calls {
         return e.getClass() == IllegalArgumentException.class ? "Argument" : e.toString();
     }
 
-    private static String make(TrialDesk desk, String name, long[] args) {
-        int[] n = new int[args.length];
-        for (int i = 0; i < n.length; i++) {
-            n[i] = (int) args[i];
-        }
+    private String make(TrialDesk desk) {
         switch (name) {
             case "arms":
-                desk.arms(n[0], n[1], n[2], n[3], n[4], args[5]);
+                desk.arms(n[0], n[1], n[2], n[3], n[4], last);
                 return "done";
             case "tear":
                 desk.tear();
                 return "done";
             default:
-                return String.valueOf(number(desk, name, n));
+                return String.valueOf(number(desk));
         }
     }
 
-    private static int number(TrialDesk desk, String name, int[] n) {
+    private int number(TrialDesk desk) {
         switch (name) {
             case "site": return desk.site(n[0]);
             case "kits": return desk.kits(n[0], n[1], n[2], n[3]);

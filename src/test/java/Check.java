@@ -1,22 +1,51 @@
+import java.util.ArrayList;
+import java.util.List;
+
 /** Compares answers with those that are due, and ends a test. */
 final class Check {
+    private static final int MOST_CALLS = 512;
+
+    private final String promise;
     private int wrong;
 
-    /** Runs the lines of a script ("call = answer", empty ones left out) on a new desk. */
-    void script(String title, String text) {
+    /** The promise's name stands before each fault that is told. */
+    Check(String promise) {
+        this.promise = promise;
+    }
+
+    /**
+     * Runs a script's lines on a new desk, and on the model, and compares each answer. Of each call that is
+     * refused or only reads it also looks whether the desk is as it was, and of each call that is torn
+     * whether all is as it was before once the desk is mounted.
+     */
+    void script(String sentence, String text) {
         TrialDesk desk = new TrialDesk();
-        for (String line : text.split("\n")) {
-            if (!line.isBlank()) {
-                String[] sides = line.split("=");
-                due(title + ": " + sides[0].trim(), Calls.answer(desk, sides[0]), sides[1].trim());
+        Model model = new Model();
+        List<String> done = new ArrayList<>();
+        List<String> seen = null;
+        List<Line> lines = Line.all(text);
+        due(sentence + ": calls that an object is used for", lines.size() <= MOST_CALLS, true);
+        for (Line line : lines) {
+            due(sentence + ": " + line.call(), Calls.answer(desk, line.call()), line.answer());
+            due(sentence + ": the model's " + line.call(), model.answer(line.call()), line.answer());
+            if (line.changesNothing()) {
+                seen = seen == null ? Probe.of(done) : seen;
+                same(sentence + ": behind " + line.call(), Probe.of(with(done, line.call())), seen);
+                continue;
             }
+            if (line.isTorn()) {
+                List<String> mounted = with(with(done, line.call()), "mount");
+                same(sentence + ": behind a torn " + line.call(), Probe.of(mounted), Probe.of(withoutTear(done)));
+            }
+            done.add(line.call());
+            seen = null;
         }
     }
 
     void due(String what, Object got, Object want) {
         if (!String.valueOf(got).equals(String.valueOf(want))) {
             wrong++;
-            System.out.println(what + " answered " + got + ", due is " + want);
+            System.out.println(promise + ", " + what + " answered " + got + ", due is " + want);
         }
     }
 
@@ -25,5 +54,27 @@ final class Check {
         if (wrong != 0) {
             System.exit(1);
         }
+    }
+
+    private void same(String what, List<String> got, List<String> want) {
+        for (int i = 0; i < want.size(); i++) {
+            if (!got.get(i).equals(want.get(i))) {
+                due(what, got.get(i), want.get(i));
+                return;
+            }
+        }
+    }
+
+    private static List<String> with(List<String> calls, String last) {
+        List<String> more = new ArrayList<>(calls);
+        more.add(last);
+        return more;
+    }
+
+    private static List<String> withoutTear(List<String> calls) {
+        List<String> less = new ArrayList<>(calls);
+        int from = Math.max(0, less.lastIndexOf("mount"));
+        less.subList(from, less.size()).removeIf(call -> call.equals("tear"));
+        return less;
     }
 }

@@ -7,7 +7,7 @@ import java.util.TreeSet;
 
 /** The public face, to the letter. */
 public final class FaceTest {
-    private static final Check CHECK = new Check();
+    private static final Check CHECK = new Check("the face");
     private static final String INDEX = " IndexOutOfBoundsException";
     private static final String STATE = " IllegalStateException";
     private static final String ARGUMENT = " IllegalArgumentException";

@@ -52,7 +52,7 @@ final class Model {
         String[] words = call.split(" ");
         int[] n = new int[words.length - 1];
         for (int i = 0; i < n.length; i++) {
-            n[i] = (int) Long.parseLong(words[i + 1]);
+            n[i] = (int) Calls.number(words[i + 1]);
         }
         if (words[0].equals("tear")) {
             tear |= !down;
@@ -318,7 +318,7 @@ final class Model {
             case "arms":
                 weights = new int[] {n[0], n[1], n[2], n[3]};
                 size = n[4];
-                seed = Long.parseLong(words[6]);
+                seed = Calls.number(words[6]);
                 return "done";
             case "site":
                 sites.add(n[0]);

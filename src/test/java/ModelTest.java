@@ -4,7 +4,7 @@ import java.util.TreeMap;
 
 /** Random runs of 512 calls, each answer compared with the model's; the seeds are fixed. */
 public final class ModelTest {
-    private static final Check CHECK = new Check();
+    private static final Check CHECK = new Check("random runs");
     private static final int RUNS = 600;
     private static final int CALLS = 512;
     private static final String[] OFTEN = {"allot", "offline", "reserve", "kits"};
@@ -110,8 +110,13 @@ public final class ModelTest {
 
     /** The number, but now and then one at or beyond an end of its range. */
     private int near(int number, int end) {
-        int dice = random.nextInt(60);
-        return dice == 0 ? -1 : dice == 1 ? end : dice == 2 ? end - 1 : number;
+        switch (random.nextInt(80)) {
+            case 0: return -1;
+            case 1: return end;
+            case 2: return end - 1;
+            case 3: return random.nextBoolean() ? Integer.MIN_VALUE : Integer.MAX_VALUE;
+            default: return number;
+        }
     }
 
     private int site() {

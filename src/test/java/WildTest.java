@@ -2,7 +2,7 @@ import java.util.Random;
 
 /** Any numbers in any state, beyond 512 calls too: no call throws anything but what its face names. */
 public final class WildTest {
-    private static final Check CHECK = new Check();
+    private static final Check CHECK = new Check("any numbers");
     private static final String[] CALLS = {"arms 6 Argument State", "site 1 Index Argument",
         "kits 4 Index State Argument", "allot 3 Index State", "reserve 2 Index State", "offline 3 Index State",
         "report 1 Index", "close 1 Index", "key 3 Index", "arm 2 Index", "open 2 Index", "count 2 Index State",
