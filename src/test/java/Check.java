@@ -4,6 +4,7 @@ import java.util.List;
 /** Compares answers with those that are due, and ends a test. */
 final class Check {
     private static final int MOST_CALLS = 512;
+    private static final long MOST_SECONDS = 300;
 
     private final String promise;
     private int wrong;
@@ -11,6 +12,9 @@ final class Check {
     /** The promise's name stands before each fault that is told. */
     Check(String promise) {
         this.promise = promise;
+        Thread watch = new Thread(this::endLate);
+        watch.setDaemon(true);
+        watch.start();
     }
 
     /**
@@ -54,6 +58,17 @@ final class Check {
         if (wrong != 0) {
             System.exit(1);
         }
+    }
+
+    /** A call that does not end must fail the test, not keep it for ever. */
+    private void endLate() {
+        try {
+            Thread.sleep(MOST_SECONDS * 1000);
+        } catch (InterruptedException e) {
+            return;
+        }
+        System.out.println(promise + ", a call has not ended after " + MOST_SECONDS + " seconds");
+        Runtime.getRuntime().halt(1);
     }
 
     private void same(String what, List<String> got, List<String> want) {
