@@ -40,7 +40,7 @@ public final class TrialDesk {
 
     public TrialDesk() {
         for (int number = 0; number < strata.length; number++) {
-            strata[number] = new Stratum(plan, number);
+            strata[number] = new Stratum(number);
         }
     }
 
@@ -57,7 +57,7 @@ public final class TrialDesk {
         }
         plan.set(a, b, c, d, size);
         for (int number = 0; number < strata.length; number++) {
-            stratumAt(number).restart(seed);
+            stratumAt(number).restart(plan, seed);
         }
     }
 
@@ -668,9 +668,10 @@ public final class TrialDesk {
      * A block may be built before it is taken: looking at it changes nothing that can be seen.
      */
     private static final class Stratum {
-        private final Plan plan;
         private final int number;
         private final int[] known = new int[ARMS];
+        // A plan without arms at first, so that there always is one.
+        private Plan plan = new Plan();
         private int[] list = new int[0];
         private long word;
         private int built;
@@ -678,12 +679,12 @@ public final class TrialDesk {
         private int openNext;
         private int openLeft;
 
-        Stratum(Plan plan, int number) {
-            this.plan = plan;
+        Stratum(int number) {
             this.number = number;
         }
 
-        void restart(long seed) {
+        void restart(Plan told, long seed) {
+            plan = told;
             word = seed ^ (number + 1) * STRATUM_STEP;
             if (word == 0) {
                 word = 1;

@@ -17,6 +17,7 @@ public final class FaceTest {
         constants();
         constructors();
         methods();
+        classesInside();
         CHECK.end();
     }
 
@@ -75,6 +76,18 @@ public final class FaceTest {
                 "int mount" + STATE)));
         hidden.retainAll(names);
         CHECK.due("hidden methods with a public one's name", hidden, "[]");
+    }
+
+    /** A constructor hands out nothing of the object that it makes: classes inside are made from numbers alone. */
+    private static void classesInside() {
+        for (Class<?> inside : TrialDesk.class.getDeclaredClasses()) {
+            CHECK.due(inside.getName(), Modifier.toString(inside.getModifiers()), "private static final");
+            for (Constructor<?> constructor : inside.getDeclaredConstructors()) {
+                for (Class<?> type : constructor.getParameterTypes()) {
+                    CHECK.due(constructor + " takes a number", type.isPrimitive(), true);
+                }
+            }
+        }
     }
 
     private static String signature(Method method) {
